@@ -351,13 +351,9 @@ public final class SunPointer {
 
     /** Leaves trial as it was. */
     private int harmOfSwapped(int a, int b) {
-        int first = trial.stands[a];
-        int second = trial.stands[b];
-        trial.setStands(a, second);
-        trial.setStands(b, first);
+        trial.exchange(a, b);
         int harm = trial.harm();
-        trial.setStands(a, first);
-        trial.setStands(b, second);
+        trial.exchange(a, b);
         return harm;
     }
 
@@ -780,6 +776,13 @@ public final class SunPointer {
             reckonBends();
         }
 
+        void exchange(int a, int b) {
+            int first = stands[a];
+            stands[a] = stands[b];
+            stands[b] = first;
+            reckonBends();
+        }
+
         void setAllStand(int m) {
             for (int hour = 0; hour < HOURS; hour++) {
                 stands[hour] = m;
@@ -839,15 +842,17 @@ public final class SunPointer {
             return Math.max(0, Math.min(QUARTERS - 1, quarter + bends[hour]));
         }
 
-        /** The first QUARTER of an HOUR in which a DUE is READ or passed; NONE. */
+        /**
+         * The first QUARTER of an HOUR in which a DUE is READ or passed; NONE. What is READ grows by
+         * one a QUARTER, and where it is held at 0 or 47 that matters to no DUE but 0.
+         */
         int firstIn(int hour, int due) {
-            int first = hour * PER_HOUR;
-            for (int q = first; q < first + PER_HOUR; q++) {
-                if (reading(q) >= due) {
-                    return q;
-                }
+            if (!readsIn(hour)) {
+                return NONE;
             }
-            return NONE;
+            int first = hour * PER_HOUR;
+            int quarter = due == 0 ? first : Math.max(first, due - bends[hour]);
+            return quarter < first + PER_HOUR ? quarter : NONE;
         }
 
         int doneAt(int i) {
@@ -865,6 +870,7 @@ public final class SunPointer {
             return worths[i] * (quarter == NONE ? NEVER_HARM : Math.abs(quarter - dues[i]));
         }
 
+        /** HARM of all DEEDS. */
         int harm() {
             int sum = 0;
             for (int i = 0; i < deeds; i++) {
