@@ -1,6 +1,7 @@
 import java.math.BigInteger;
 import java.util.ArrayList;
 import java.util.Arrays;
+import java.util.Collections;
 import java.util.List;
 import java.util.Random;
 
@@ -780,8 +781,16 @@ public final class OracleTests {
         for (int i = r.nextInt(6); i > 0; i--) {
             s.append("deed ").append(r.nextInt(48)).append(' ').append(1 + r.nextInt(9)).append(';');
         }
+        if (r.nextInt(2) == 0) shuffle(s, r);
         if (r.nextInt(3) == 0 && s.length() > 0) spoil(s, r);
         return s.toString();
+    }
+
+    private static void shuffle(StringBuilder s, Random r) {
+        List<String> lines = new ArrayList<>(Arrays.asList(s.toString().split("(?<=;)")));
+        Collections.shuffle(lines, r);
+        s.setLength(0);
+        for (String line : lines) s.append(line);
     }
 
     private static void spoil(StringBuilder s, Random r) {

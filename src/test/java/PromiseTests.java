@@ -189,6 +189,10 @@ public final class PromiseTests {
         due("4 back(0)", x.back(0), STATE);
         due("4 count(3)", x.count(3), 5);
         due("4 torn()", x.torn(), 3);
+        SunPointer y = told("deed 4 1;cloud 0;rota 0 0;paint 2;upright 5;");
+        due("4 shows(4)", y.shows(4), 5);
+        due("4 shows(0)", y.shows(0), NONE);
+        due("4 deed(0, 2)", y.deed(0, 2), 4);
         feed(x, "bad");
         due("5 text()", x.text(), -10);
         due("5 fault()", x.fault(), 2);
@@ -259,6 +263,7 @@ public final class PromiseTests {
         faulty("rota " + times(13, "4 ") + ";", 5, 29);
         faulty("rota " + times(12, "4 ") + "9;", 5, 29);
         faulty("rota " + times(12, "4 ") + "cloud;", 5, 29);
+        faulty("rota " + times(12, "4 "), 5, 29);
     }
 
     private static void faultOfNoMan() {
@@ -426,6 +431,8 @@ public final class PromiseTests {
         due("18 shows(8)", y.shows(8), 8);
         due("18 lost(0)", y.lost(0), 1);
         due("18 lost(1)", y.lost(1), 8);
+        y.alter(1, 1, 1);
+        due("18 lost(0), the same again is not back", y.lost(0), 0);
         y.shift(2, NONE);
         due("18 lost(0)", y.lost(0), 0);
         due("18 lost(1)", y.lost(1), NONE);
