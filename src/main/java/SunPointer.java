@@ -1035,7 +1035,8 @@ public final class SunPointer {
                     return;
                 }
                 if (hour == HOURS) {
-                    fail(TOO_MANY, tokenPlace);
+                    // At the end nothing stands in the 13th place, so nothing is too many.
+                    fail(token == END_TOKEN ? MISPLACED : TOO_MANY, tokenPlace);
                     return;
                 }
                 judgeNumber(0, NOBODY);

@@ -154,7 +154,7 @@ public final class OracleTests {
                 rota = true;
                 int n = 0;
                 for (c.cut(); !c.token.equals(";"); c.cut()) {
-                    if (n == 12) throw new Fault(5, c.place);
+                    if (n == 12) throw new Fault(c.token.isEmpty() ? 2 : 5, c.place);
                     int v = c.bounded(0, 4);
                     t.rota[n++] = v == 4 ? null : Integer.valueOf(v);
                 }

@@ -236,6 +236,9 @@ public final class PromiseTests {
         faulty("cloud 1 2;", 2, 8);
         faulty("rota 1 a;", 2, 7);
         faulty("rota 1", 2, 6);
+        faulty("rota" + times(11, "4 ") + "4", 2, 27);
+        faulty("rota " + times(12, "4 "), 2, 29);
+        faulty("rota " + times(12, "4 ") + "  ", 2, 31);
     }
 
     private static void faultsOfBounds() {
@@ -263,7 +266,6 @@ public final class PromiseTests {
         faulty("rota " + times(13, "4 ") + ";", 5, 29);
         faulty("rota " + times(12, "4 ") + "9;", 5, 29);
         faulty("rota " + times(12, "4 ") + "cloud;", 5, 29);
-        faulty("rota " + times(12, "4 "), 5, 29);
     }
 
     private static void faultOfNoMan() {
