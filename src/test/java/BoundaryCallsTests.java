@@ -26,6 +26,7 @@ public final class BoundaryCallsTests extends Checks {
         leansAndKinds();
         ask();
         drift();
+        changed();
         manyCalls();
         finish();
     }
@@ -533,6 +534,9 @@ public final class BoundaryCallsTests extends Checks {
             x.alter(0, 1, 0);
             due("mark(0)", x.mark(0), 6);
             due("mark(1)", x.mark(1), 0);
+            x.alter(0, 0, 1);
+            due("mark(0), where 7 would be better", x.mark(0), 6);
+            due("mark(1), where 7 would be better", x.mark(1), 1);
         });
         test("22: of several the least", () -> {
             SunPointer x = told("upright 3;rota 4 4 0;deed 9 2;deed 11 2;");
@@ -909,6 +913,14 @@ public final class BoundaryCallsTests extends Checks {
             x.want(6, 1);
             due("ask(0, 0)", x.ask(0, 0), 4);
         });
+        test("32: of LEANS that are left, no others", () -> {
+            SunPointer x = told("upright 3;rota 4 0;deed 4 1;deed 10 1;");
+            // DUE 10 by LEAN 6 alone. DUE 4 by LEANS 3 to 6 in 4, by each of the others later.
+            x.see(1, NONE);
+            due("leans(0)", x.leans(0), 63);
+            due("ask(0, 0)", x.ask(0, 0), 0);
+            due("ask(0, 1)", x.ask(0, 1), 3);
+        });
         test("32: at the worst, by when it is DONE", () -> {
             SunPointer x = told("upright 3;rota 4 0 4 0;deed 7 1;deed 5 1;");
             // DUE 7 by LEANS 0 to 2 in 12, by 3 to 6 in 7 to 4. DUE 5 by 0, 1 and by 2, 3 alone, by 4 to 6 in 4.
@@ -919,6 +931,47 @@ public final class BoundaryCallsTests extends Checks {
             due("ask(0, 0)", x.ask(0, 0), 0);
             due("ask(0, 1)", x.ask(0, 1), 1);
         });
+    }
+
+    private static void changed() {
+        test("what calls have changed is asked of as what a text has told", () -> {
+            SunPointer y = told("tired 2;upright 5;rota 0 0 0 4 1 1;cloud 1;paint 4;deed 6 3;deed 11 1;");
+            each(0, 1, what -> {
+                SunPointer[] x = {town(2, 2), town(2, 2), town(2, 2), town(2, 2), town(2, 2), town(2, 2), town(2, 2)};
+                for (SunPointer each : x) {
+                    change(each);
+                }
+                due("lean", x[0].lean(1, 1, 17 + what), y.lean(1, 1, 17 + what));
+                due("mark", x[1].mark(what), y.mark(what));
+                due("give", x[2].give(what), y.give(what));
+                due("swap", x[3].swap(what), y.swap(what));
+                due("sole", x[4].sole(what), y.sole(what));
+                due("drift", x[5].drift(3, 2, what), y.drift(3, 2, what));
+                due("ask", x[6].ask(0, what), y.ask(0, what));
+                due("mean", x[0].mean(3, what), y.mean(3, what));
+                due("luck", x[0].luck(3, 1, what), y.luck(3, 1, what));
+            });
+            SunPointer x = town(2, 2);
+            change(x);
+            x.see(0, 8);
+            y.see(0, 8);
+            each(0, 1, m -> due("leans", x.leans(m), y.leans(m)));
+            each(0, 1, m -> due("kinds", x.kinds(m), y.kinds(m)));
+        });
+    }
+
+    private static void change(SunPointer x) {
+        x.alter(0, 0, 2);
+        x.alter(0, 1, 2);
+        x.alter(1, 1, 5);
+        each(0, 2, hour -> x.shift(hour, 0));
+        each(4, 5, hour -> x.shift(hour, 1));
+        x.cloud(1, true);
+        x.paint(4);
+        x.move(0, 0, 6);
+        x.move(0, 1, 3);
+        x.drop(1);
+        x.want(11, 1);
     }
 
     /** The same by shift() and rule(5) on another object, the seed as a number without a bound. */

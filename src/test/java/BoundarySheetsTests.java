@@ -346,7 +346,9 @@ public final class BoundarySheetsTests extends Checks {
             due("read(0, 0, 0, 20)", x.read(0, 0, 0, 20), -20 - i);
             due("read ahead of it", x.read(0, 0, 0, i), i);
         }));
-        test("38: i counts from f on", () -> due("read(0, 1, 2, 2)", twoMen(1, 0, 0, 1, 0, 12, 0).read(0, 1, 2, 2), -21));
+        test("38: i counts from f on", () -> {
+            due("read(0, 1, 2, 2)", twoMen(1, 0, 0, 1, 0, 12, 0).read(0, 1, 2, 2), -21);
+        });
         test("38: then none came", () -> {
             SunPointer x = twoMen(1, 1, 0, 2, 1, 3, 7);
             x.shift(1, 1);

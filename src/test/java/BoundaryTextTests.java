@@ -1,6 +1,7 @@
 /** THE TAPE, its TOKENS, its lines and its FAULTS: for each sentence that names a bound, a test. */
 public final class BoundaryTextTests extends Checks {
     private static final String TWELVE = "rota " + "4 ".repeat(12);
+    private static final String[] NAMES = {"upright", "stooped", "tired", "lover", "rota", "cloud", "paint", "deed"};
 
     public static void main(String[] args) {
         tape();
@@ -238,6 +239,16 @@ public final class BoundaryTextTests extends Checks {
     }
 
     private static void faultTwo() {
+        test("FAULT 2: a NAME that is a line's but for one letter, one more, one less", () -> {
+            for (String name : NAMES) {
+                for (int at = 0; at < name.length(); at++) {
+                    faulty(name.substring(0, at) + "z" + name.substring(at + 1) + " 1 1;", 2, 0);
+                    faulty(name.substring(0, at) + name.substring(at + 1) + " 1 1;", 2, 0);
+                    faulty(name.substring(0, at) + "z" + name.substring(at) + " 1 1;", 2, 0);
+                }
+                faulty(name + "z 1 1;", 2, 0);
+            }
+        });
         test("FAULT 2: a NAME that begins no line", () -> {
             faulty("dawn 1;", 2, 0);
             faulty("paint 1; noon", 2, 9);
@@ -302,6 +313,8 @@ public final class BoundaryTextTests extends Checks {
             good("cloud 11;", 1);
             faulty("cloud 12;", 3, 6);
             faulty("cloud 99;", 3, 6);
+            faulty("cloud 0;cloud 12;", 3, 14);
+            faulty("cloud 12?", 3, 6);
         });
         test("FAULT 3: PAINT out of its bounds", () -> {
             good("paint 0;", 1);

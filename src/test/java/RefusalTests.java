@@ -244,10 +244,14 @@ public final class RefusalTests extends Checks {
         fresh("worst(0)", x -> x.worst(0), NONE);
     }
 
+    private static void tape(String call, ToLongFunction<SunPointer> answer, long want) {
+        test("refused by a full TAPE: " + call, () -> leaves(RefusalTests::fullTape, call, answer, want));
+    }
+
     private static void refusedByFullTape() {
-        test("refused by a full TAPE: feed(59)", () -> leaves(RefusalTests::fullTape, "feed(59)", x -> x.feed(59), FULL));
-        test("refused by a full TAPE: feed(-1)", () -> leaves(RefusalTests::fullTape, "feed(-1)", x -> x.feed(-1), BAD));
-        test("refused by a full TAPE: end(161)", () -> leaves(RefusalTests::fullTape, "end(161)", x -> x.end(161), BAD));
+        tape("feed(59)", x -> x.feed(59), FULL);
+        tape("feed(-1)", x -> x.feed(-1), BAD);
+        tape("end(161)", x -> x.end(161), BAD);
     }
 
     /** A text with a FAULT empties THE TAPE and is told by fault(), and nothing else is changed. */
